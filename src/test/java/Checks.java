@@ -33,6 +33,36 @@ final class Checks {
         }
     }
 
+    void badAndChangesNothing(String what, UndoWorks works, Runnable call) {
+        String before = allOf(works);
+        bad(what, call);
+        holds(what + ": it changes nothing", before.equals(allOf(works)));
+    }
+
+    void refusedAndChangesNothing(String what, UndoWorks works, Runnable call) {
+        String before = allOf(works);
+        refused(what, call);
+        holds(what + ": it changes nothing", before.equals(allOf(works)));
+    }
+
+    /** All that can be seen of an object without a run. */
+    static String allOf(UndoWorks works) {
+        StringBuilder all = new StringBuilder("given " + works.given());
+        for (int what : new int[] {0, 1, 2, 3, 4, 5, 6, 10, 11, 12, 13}) {
+            all.append(", count(").append(what).append(") ").append(works.count(what));
+        }
+        for (int i = 0; i < 8; i++) {
+            all.append(", number(").append(i).append(") ").append(works.number(i));
+        }
+        for (int i = 0; i < works.count(0); i++) {
+            all.append(", row(").append(i).append(") ").append(works.row(i));
+        }
+        for (int i = 0; i < works.count(1); i++) {
+            all.append(", log(").append(i).append(") ").append(works.log(i));
+        }
+        return all.toString();
+    }
+
     void numbers(String what, UndoWorks works, int... want) {
         for (int i = 0; i < want.length; i++) {
             same(what + ", number(" + i + ")", want[i], works.number(i));

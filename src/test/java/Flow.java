@@ -8,7 +8,7 @@ final class Flow {
         this.w = w;
     }
 
-    private Flow put(int sort, int a, int b) {
+    Flow put(int sort, int a, int b) {
         works.node(w, sort, a, b);
         return this;
     }
@@ -37,6 +37,22 @@ final class Flow {
     Flow when(int a) { return put(21, a, 0); }
     Flow otherwise() { return put(22, 0, 0); }
     Flow keep() { return put(23, 0, 0); }
+
+    /** As many ENDS. */
+    Flow ends(int many) {
+        for (int i = 0; i < many; i++) {
+            end();
+        }
+        return this;
+    }
+
+    /** Costs exactly this, and does nothing else: an empty LOOP costs 1, and 1 a round. */
+    Flow burn(int cost) {
+        for (int left = cost; left > 0; left -= 10) {
+            loop(Math.min(left, 10) - 1).end();
+        }
+        return this;
+    }
 
     int run() { return works.run(w); }
 }

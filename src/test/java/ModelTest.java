@@ -3,8 +3,10 @@ import java.util.function.IntSupplier;
 
 /** Runs of random calls, the same each time, on the class and on the model: every answer and all that can be seen is the same. */
 public final class ModelTest {
-    private static final int OBJECTS = 800;
-    private static final int CALLS = 512;
+    private static final int OBJECTS = 6000;
+    // The document promises nothing behind these; one round of the loop below makes fewer than MOST_AT_ONCE.
+    private static final int MOST_CALLS = 512;
+    private static final int MOST_AT_ONCE = 130;
     private static final int BAD = Integer.MIN_VALUE;
     private static final int REFUSED = Integer.MIN_VALUE + 1;
     // NOTES, steps and ways out often enough that most runs get somewhere.
@@ -12,6 +14,7 @@ public final class ModelTest {
         10, 10, 10, 11, 11, 11, 12, 12, 13, 13, 14, 14, 14, 15, 16, 16, 16, 16, 16, 17, 18, 19, 20, 20, 20, 21, 22, 23, 23};
 
     private static int wrong = 0;
+    private static int calls = 0;
     private static final int[] seen = new int[13];
     private static int sumLost = 0;
     private static int sumUndone = 0;
@@ -43,18 +46,21 @@ public final class ModelTest {
         Random random = new Random(seed);
         UndoWorks works = new UndoWorks();
         Model model = new Model();
-        for (int call = 0; call < CALLS && wrong == 0; call++) {
-            String where = "object " + seed + ", call " + call + ": ";
+        calls = 0;
+        while (calls + MOST_AT_ONCE <= MOST_CALLS && wrong == 0) {
+            String where = "object " + seed + ", call " + calls + ": ";
             int kind = random.nextInt(100);
+            boolean looks = random.nextInt(40) == 0;
             int w = random.nextInt(50) == 0 ? edge(random, 8) : random.nextInt(1 + seed % 8);
             if (kind < 4) {
                 phrase(random, where, works, model, w);
-            } else if (kind < 84) {
+            } else if (kind < 92) {
                 node(random, where, works, model, w);
-            } else if (kind < 97) {
+            } else if (kind < 99) {
                 close(random, works, model, w);
                 int got = answer(() -> works.run(w));
                 same(where + "run(" + w + ")", answer(() -> model.run(w)), got);
+                looks = true;
                 if (got >= -1 && got <= 11) {
                     seen[got + 1]++;
                 }
@@ -62,8 +68,11 @@ public final class ModelTest {
                 same(where + "clear(" + w + ")", answer(() -> { model.clear(w); return 0; }),
                     answer(() -> { works.clear(w); return 0; }));
             }
-            compareAll(where, works, model);
+            if (looks) {
+                compareAll(where, works, model);
+            }
         }
+        compareCounts("object " + seed + ", in the end: ", works, model);
         sumLost += model.lost;
         sumUndone += model.undone;
     }
@@ -115,8 +124,10 @@ public final class ModelTest {
         if (random.nextInt(20) == 0) {
             return;
         }
-        for (int i = 0; i < 10; i++) {
-            same("closing " + w, answer(() -> model.node(w, 16, 0, 0)), answer(() -> works.node(w, 16, 0, 0)));
+        int got = 0;
+        for (int i = 0; i < 10 && got >= 0; i++) {
+            got = answer(() -> works.node(w, 16, 0, 0));
+            same("closing " + w, answer(() -> model.node(w, 16, 0, 0)), got);
         }
     }
 
@@ -130,10 +141,14 @@ public final class ModelTest {
         }
     }
 
-    private static void compareAll(String where, UndoWorks works, Model model) {
+    private static void compareCounts(String where, UndoWorks works, Model model) {
         for (int what = -2; what < 16; what++) {
             same(where + "count(" + what + ")", model.count(what), works.count(what));
         }
+    }
+
+    private static void compareAll(String where, UndoWorks works, Model model) {
+        compareCounts(where, works, model);
         same(where + "given()", model.given, works.given());
         for (int i = -1; i <= 8; i++) {
             int at = i;
@@ -149,7 +164,13 @@ public final class ModelTest {
         }
     }
 
+    /** Each has one call on the class behind it. */
     private static void same(String what, int want, int got) {
+        calls++;
+        if (calls > MOST_CALLS) {
+            wrong++;
+            System.out.println("the test itself makes more calls than it may");
+        }
         if (want != got) {
             wrong++;
             System.out.println(what + " answered " + got + ", the model " + want);

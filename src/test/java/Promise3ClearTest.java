@@ -16,6 +16,7 @@ public final class Promise3ClearTest {
         checks.same("its COST", 0, works.count(2));
         checks.same("a first one again", 1, works.node(0, 0, 0, 0));
         openBlocksAreGone(checks);
+        eachOfTheEight(checks);
         for (int w : new int[] {-1, 8, Integer.MIN_VALUE, Integer.MAX_VALUE}) {
             checks.bad("clear(" + w + ")", () -> works.clear(w));
         }
@@ -46,5 +47,23 @@ public final class Promise3ClearTest {
         }
         works.clear(2);
         checks.same("room again", 1, works.node(2, 1, 0, 1));
+    }
+
+    private static void eachOfTheEight(Checks checks) {
+        for (int cleared = 0; cleared < 8; cleared++) {
+            UndoWorks works = new UndoWorks();
+            for (int w = 0; w < 8; w++) {
+                new Flow(works, w).set(0, 10 + w).give(0);
+            }
+            works.clear(cleared);
+            checks.same("NODES behind clear(" + cleared + ")", 14, works.count(5));
+            for (int w = 0; w < 8; w++) {
+                checks.same("run(" + w + ") behind clear(" + cleared + ")", w == cleared ? 0 : 1, works.run(w));
+                checks.same("what " + w + " gave", w == cleared ? 0 : 10 + w, works.given());
+            }
+            works.clear(cleared);
+            checks.same("clear of an empty one", 14, works.count(5));
+            checks.same("runs are no NODES", 8, works.count(6));
+        }
     }
 }

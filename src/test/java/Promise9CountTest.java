@@ -29,6 +29,50 @@ public final class Promise9CountTest {
         works.clear(0);
         checks.same("NODES", 11, works.count(5));
         checks.same("ROW's places stay", 3, works.count(0));
+        othersAreMinusOne(checks);
+        runsHoweverTheyEnd(checks);
+        slotsFromTheFirstToTheLast(checks);
         checks.finish();
+    }
+
+    private static void othersAreMinusOne(Checks checks) {
+        UndoWorks works = new UndoWorks();
+        for (int what = -40; what <= 40; what++) {
+            boolean named = what >= 0 && what <= 6 || what >= 10 && what <= 13;
+            checks.same("count(" + what + ") of a new object", what == 0 ? 8 : named ? 0 : -1, works.count(what));
+        }
+        checks.same("the least int", -1, works.count(Integer.MIN_VALUE));
+        checks.same("the greatest int", -1, works.count(Integer.MAX_VALUE));
+    }
+
+    private static void runsHoweverTheyEnd(Checks checks) {
+        UndoWorks works = new UndoWorks();
+        new Flow(works, 1).give(0);
+        new Flow(works, 2).fail(9);
+        new Flow(works, 3).burn(60).note(0);
+        new Flow(works, 4).call(0, 0).call(0, 1);
+        new Flow(works, 5).scope();
+        int[] due = {0, 1, 11, -1, 0};
+        for (int w = 0; w <= 4; w++) {
+            checks.same("run(" + w + ")", due[w], works.run(w));
+            checks.same("runs behind run(" + w + ")", w + 1, works.count(6));
+        }
+        checks.refused("run(5)", () -> works.run(5));
+        checks.bad("run(8)", () -> works.run(8));
+        checks.bad("run(-1)", () -> works.run(-1));
+        checks.same("runs that were REFUSED or bad are none", 5, works.count(6));
+    }
+
+    private static void slotsFromTheFirstToTheLast(Checks checks) {
+        for (int slot = 0; slot < 4; slot++) {
+            for (int held = 0; held <= 2; held++) {
+                UndoWorks works = new UndoWorks();
+                new Flow(works, 0).hold(slot, held).run();
+                for (int what = 9; what <= 14; what++) {
+                    int due = what == 9 || what == 14 ? -1 : what == 10 + slot ? held : 0;
+                    checks.same("count(" + what + ") with " + held + " in SLOT " + slot, due, works.count(what));
+                }
+            }
+        }
     }
 }
